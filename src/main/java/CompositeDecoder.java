@@ -636,7 +636,7 @@ public final class CompositeDecoder {
         private void steer(int pulse) {
             int error = 4 * pulse - position;
             if (pulse != NOT_FOUND && isWithin(error, -REACH, REACH)) {
-                // Java's division rounds towards zero, as it is wanted here alone.
+                // Java's division rounds towards zero, as the document wants it here, but nowhere else.
                 position += error / 2;
                 hits++;
                 misses = 0;

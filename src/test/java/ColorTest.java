@@ -8,6 +8,8 @@ public final class ColorTest {
         combsOfAPlainPicture();
         nearness();
         lumaRoundsDown();
+        notchAtEdges();
+        beyondTheLine();
         linesAtTheirOwnStarts();
         colorsOfAPlainPicture();
         colorsAreTurned();
@@ -94,6 +96,46 @@ public final class ColorTest {
         // The noise of the samples 56 to 63 is -1 1 -2 0 2 -1 1 -2, in all -2: (-8 + 4) / 32, and (0 - 4) / 32 below it.
         Check.due("below 0", dark.luma(3, 4), -1);
         Check.due("below 0, from the line below it", dark.luma(4, 4), -1);
+    }
+
+    private static void notchAtEdges() {
+        CompositeDecoder x = plain();
+        x.set(2, 0);
+        x.setSegment(4, 5, 140, 20, -30);
+        x.setSegment(4, 6, 200, 20, -30);
+        x.decode();
+        // The chroma's sum is 2 * 40 at the left edge and 2 * -60 at the right one: (4480 + 40) / 32.
+        Check.due("between 100 and 200", x.luma(4, 5), 141);
+        // Left of it: 2 * -40; right of it: 2 * 60 and 2 * 100.
+        Check.due("below an edge", x.luma(4, 4), 102);
+        Check.due("above two edges", x.luma(4, 6), 190);
+        // At the left end 2 samples of the burst (0 and 20, -20 by turns), at the right end 2 samples of nothing.
+        Check.due("the left end", x.luma(4, 0), 94);
+        Check.due("the right end", x.luma(4, 9), 94);
+        x.setLine(4, 0, 20, 0, 3);
+        x.decode();
+        int left = 0;
+        for (int k = 64; k < 72; k++) {
+            left += 2 * x.sample(4, k) + x.sample(4, k - 2) + x.sample(4, k + 2);
+        }
+        Check.due("with noise: (4 * M - C) / 32", x.luma(4, 5), Math.floorDiv(left, 32));
+    }
+
+    /** A start that is late by 12 samples: the last segments lie beyond the line, where all is 0. */
+    private static void beyondTheLine() {
+        CompositeDecoder x = plain();
+        x.set(2, 0);
+        x.setStandard(1);
+        x.setLine(0, -2, 40, 1, 0);
+        x.miss(0, true);
+        x.fill(0, 0, 60, -60);
+        x.setSegment(0, 8, 200, 0, 0);
+        x.setSegment(0, 9, 200, 0, 0);
+        x.decode();
+        Check.due("the start", x.line(0, 1), 20);
+        // Read from 100 on: the line's last two samples of 200, then nothing; the chroma's sum is 4 * 200 - 4 * 200.
+        Check.due("the last but one", x.luma(0, 8), 50);
+        Check.due("the last", x.luma(0, 9), 0);
     }
 
     private static void linesAtTheirOwnStarts() {

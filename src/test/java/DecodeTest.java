@@ -19,7 +19,9 @@ public final class DecodeTest {
         flywheelOutOfReach();
         flywheelWithoutPulses();
         flywheelLetsGo();
+        flywheelBeginsAnew();
         weakPulses();
+        falsePulses();
         burstSums();
         burstEdges();
         colorSwitch();
@@ -130,6 +132,56 @@ public final class DecodeTest {
         x.miss(6, true);
         x.miss(7, true);
         Check.due("a hit ends the misses", x.decode(), 7);
+    }
+
+    private static void flywheelBeginsAnew() {
+        CompositeDecoder x = new CompositeDecoder();
+        for (int n = 5; n < 8; n++) {
+            x.miss(n, true);
+        }
+        Check.due("three misses at the end", x.decode(), 7);
+        x.setLine(0, 4, 20, 0, 0);
+        for (int n = 5; n < 8; n++) {
+            x.miss(n, false);
+        }
+        // Were the misses of the decoding before kept, or the lock, or the position, the line 0 would show it.
+        x.decode();
+        rows(x, POSITION, 48, 32, 32, 32, 32, 32, 32, 32);
+        rows(x, LOCKED, 0, 0, 0, 1, 1, 1, 1, 1);
+        x = jittered(0, 0, 3, 4, 4, 4, 0, 0);
+        x.decode();
+        // d: 0, 0, 12, then 48 - 38 = 10, 5, 3, then 32 - 45 = -13 out of reach, twice.
+        rows(x, POSITION, 32, 32, 38, 43, 45, 46, 46, 46);
+        x = jittered(3, 3, -1, 0, 0, 0, 0, 0);
+        x.decode();
+        // d: 12, 6, then 28 - 41 = -13 out of reach, then 32 - 41 = -9.
+        rows(x, POSITION, 38, 41, 41, 37, 35, 34, 33, 33);
+    }
+
+    /** The end of a turned burst and the begin of a colored segment can look like a pulse where there is none. */
+    private static void falsePulses() {
+        Check.due("four low samples at 20", falsePulse(-2, 1, 20, 60), 20);
+        Check.due("not low enough", falsePulse(-2, 1, 19, 60), NONE);
+        Check.due("low enough", falsePulse(-2, 1, 20, 20), 20);
+        Check.due("not low enough", falsePulse(-2, 1, 20, 19), NONE);
+        Check.due("four low samples at 18", falsePulse(-4, 3, 40, 60), 18);
+        Check.due("four low samples at 21", falsePulse(-1, 0, 40, 60), NONE);
+    }
+
+    private static int falsePulse(int jitter, int phase, int amplitude, int color) {
+        CompositeDecoder x = new CompositeDecoder();
+        x.setStandard(1);
+        x.setLine(0, jitter, amplitude, phase, 0);
+        x.miss(0, true);
+        x.fill(0, 0, 60, -color);
+        x.decode();
+        int pulse = x.line(0, PULSE);
+        Check.due("the start", x.line(0, START), pulse == NONE ? 8 : pulse);
+        Check.due("the position", x.line(0, POSITION), pulse == NONE ? 32 : 4 * pulse);
+        x.fill(0, 0, 60, 0);
+        x.decode();
+        Check.due("three low samples", x.line(0, PULSE), NONE);
+        return pulse;
     }
 
     private static void weakPulses() {

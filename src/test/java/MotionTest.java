@@ -64,6 +64,12 @@ public final class MotionTest {
         Check.due("alone at the left", x.motion(7, 0), 1);
         Check.due("alone at the right", x.motion(7, 9), 1);
         Check.due("noise", x.count(8), 2);
+        x.set(2, 0);
+        x.decode();
+        x.setSegment(0, 0, 160, 0, 0);
+        x.decode();
+        Check.due("the first segment alone", x.motion(0, 0), 1);
+        Check.due("noise", x.count(8), 1);
     }
 
     private static void limitOfTheDecoding() {
@@ -180,6 +186,10 @@ public final class MotionTest {
         x.decode();
         Check.due("wrong lumas", x.count(5), 0);
         Check.due("differences", x.count(6), 0);
+        x.setSegment(0, 0, 93, 0, 0);
+        Check.due("the first segment", x.count(5), 1);
+        Check.due("the first segment", x.count(6), 7);
+        x.setSegment(0, 0, 100, 0, 0);
         x.setSegment(2, 2, 90, 0, 0);
         x.setSegment(2, 3, 120, 0, 0);
         Check.due("against the picture now", x.count(5), 2);
