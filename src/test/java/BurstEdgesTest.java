@@ -226,9 +226,11 @@ public final class BurstEdgesTest {
         pairs("+-0.....", 1, 1, 0);
     }
 
+    /** Behind the second decoding, too: the pairs of the first one are not among its own. */
     private static void pairs(String signs, int turned, int steady, int guessed) {
         CompositeDecoder x = new CompositeDecoder();
         send(x, signs);
+        x.decode();
         x.decode();
         Check.due("turned pairs of " + signs, x.count(2), turned);
         Check.due("steady pairs of " + signs, x.count(3), steady);
