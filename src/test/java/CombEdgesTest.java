@@ -18,6 +18,7 @@ public final class CombEdgesTest {
         theNotchReadsTwoSamplesBeyondASegment();
         samplesBeyondTheLineAreZero();
         lumasAreRoundedDown();
+        aThirtySecondBelowAWholeLumaIsLess();
         linesAreComparedFromTheirOwnStarts();
         colorsAreOffFromTheSecondBadBurstOn();
         noColorWithoutAReference();
@@ -262,6 +263,36 @@ public final class CombEdgesTest {
             Check.due("a sixteenth of a sum, below it", x.luma(4, i), lumas[i]);
             Check.due("nothing above it", x.luma(2, i), 0);
         }
+    }
+
+    /**
+     * "All divisions of whole numbers round down": from one 32nd below a whole luma. With the notch, 32 times the luma
+     * is (in the line 0) 28 * Y + twice the Y of both neighbors, + U of the right one, - U of the left one.
+     */
+    private static void aThirtySecondBelowAWholeLumaIsLess() {
+        notchBeside(1, 0, 99);
+        notchBeside(32, 0, 99);
+        notchBeside(33, 0, 98);
+        notchBeside(0, 31, 100);
+        notchBeside(0, 32, 101);
+        // With both, it is twice the sum of the line and those of the lines above (4 * 8, and noise) and below (0).
+        CompositeDecoder x = new CompositeDecoder();
+        x.set(2, 2);
+        x.setLine(3, 0, 20, 0, 1);
+        x.fill(3, 4, 0, 0);
+        x.decode();
+        Check.due("33 / 32", x.luma(4, 0), 1);
+        Check.due("31 / 32", x.luma(4, 1), 0);
+        Check.due("32 / 32", x.luma(4, 3), 1);
+    }
+
+    private static void notchBeside(int left, int right, int want) {
+        CompositeDecoder x = plain(100, 0, 0);
+        x.set(2, 0);
+        x.setSegment(0, 4, 100, left, 0);
+        x.setSegment(0, 6, 100, right, 0);
+        x.decode();
+        Check.due("luma beside U " + left + " and " + right, x.luma(0, 5), want);
     }
 
     /** "u(k) and w(k) are their samples at the same distance from their own starts". */
